@@ -89,19 +89,13 @@ public final class CellWorks {
     }
 
     public boolean remove() throws NoSuchElementException {
-        long name = reader.tape.onlyName();
-        if (name == NO_NAME) {
-            throw new NoSuchElementException("the tape is no NAME");
-        }
+        long name = nameOnTape();
         reader.tape.length = 0;
         return cells.drop(name);
     }
 
     public int build() throws NoSuchElementException {
-        long name = reader.tape.onlyName();
-        if (name == NO_NAME) {
-            throw new NoSuchElementException("the tape is no NAME");
-        }
+        long name = nameOnTape();
         reader.tape.length = 0;
         int place = cells.indexOf(name);
         int workedOut = builder.run(cells, place == NONE ? 0L : 1L << place);
@@ -113,19 +107,11 @@ public final class CellWorks {
     }
 
     public long value() throws NoSuchElementException {
-        long name = reader.tape.onlyName();
-        if (name == NO_NAME) {
-            throw new NoSuchElementException("the tape is no NAME");
-        }
-        return cells.valueOf(cells.find(name));
+        return cells.valueOf(cells.find(nameOnTape()));
     }
 
     public int state() throws NoSuchElementException {
-        long name = reader.tape.onlyName();
-        if (name == NO_NAME) {
-            throw new NoSuchElementException("the tape is no NAME");
-        }
-        Cell cell = cells.find(name);
+        Cell cell = cells.find(nameOnTape());
         if (cell == null) {
             return NONE;
         }
@@ -133,10 +119,7 @@ public final class CellWorks {
     }
 
     public int readers(boolean all) throws NoSuchElementException {
-        long name = reader.tape.onlyName();
-        if (name == NO_NAME) {
-            throw new NoSuchElementException("the tape is no NAME");
-        }
+        long name = nameOnTape();
         return Long.bitCount(all ? cells.dependents(name) : cells.directReaders(name));
     }
 
@@ -163,6 +146,14 @@ public final class CellWorks {
             default:
                 throw new IllegalArgumentException("what is none of 0 to 4");
         }
+    }
+
+    private long nameOnTape() {
+        long name = reader.tape.onlyName();
+        if (name == NO_NAME) {
+            throw new NoSuchElementException("the tape is no NAME");
+        }
+        return name;
     }
 
     /** Takes in the definition that was read, if the faults 4 and 5 do not forbid it. */
