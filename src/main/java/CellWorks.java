@@ -520,7 +520,7 @@ public final class CellWorks {
         // The cells whose names stand in the formula of the cell at each place, when traced.
         final long[] reads = new long[MOST_CELLS];
 
-        /** How many cells have a name before this one. */
+        /** How many cells have a name before this one; each step is taken once, since 64 is a power of 2. */
         private int placeFor(long name) {
             int place = 0;
             for (int step = MOST_CELLS; step > 0; step /= 2) {
@@ -821,7 +821,7 @@ public final class CellWorks {
         private void keepNames(Cells cells, long workedOut) {
             latestSize = 0;
             for (int p = 0; p < cells.size; p++) {
-                if ((workedOut & (1L << p)) != 0) {
+                if ((workedOut & (1L << p)) != 0 && latestSize < latest.length) {
                     latest[latestSize] = cells.rows[p].name;
                     latestSize++;
                 }

@@ -122,8 +122,8 @@ public final class ModelTest {
         end(0);
         byte[] bytes = text.getBytes(StandardCharsets.ISO_8859_1);
         for (int from = 0; from < bytes.length; from += 20) {
-            feed(Check.word(bytes, from), Check.word(bytes, from + 4), Check.word(bytes, from + 8),
-                    Check.word(bytes, from + 12), Check.word(bytes, from + 16));
+            feed(Portrait.word(bytes, from), Portrait.word(bytes, from + 4), Portrait.word(bytes, from + 8),
+                    Portrait.word(bytes, from + 12), Portrait.word(bytes, from + 16));
         }
         end(bytes.length);
     }
